@@ -29,8 +29,8 @@ public final class MailSync {
     private static final int ALL_FLAGS = 63;
     private static final int MAY_BE_REMOVED = 1;
 
-    // The columns of messages, deeds and noted outcomes have the numbers that the document gives
-    // to "what", so that the face can hand its argument on.
+    // The columns of messages and of deeds have the numbers that the document gives to "what", so
+    // that the face can hand its argument on.
     private static final int NAME = 0;
     private static final int CONTENT = 1;
     private static final int FLAGS = 2;

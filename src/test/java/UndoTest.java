@@ -68,8 +68,13 @@ final class UndoTest {
         return seen.toString();
     }
 
+    // Nothing that a record holds is as in a new object, so that what is left out of it shows.
     private static MailSync prepared() {
         MailSync x = new MailSync();
+        x.setPolicy(1, 1);
+        x.renew(1);
+        x.renew(0);
+        x.sync(0, 1);
         x.add(0, 1, 1);
         x.add(0, 2, 1);
         x.add(0, 3, 0);
@@ -146,6 +151,19 @@ final class UndoTest {
         Check.refuses("what only asks makes no record", x, STATE, () -> x.undo());
     }
 
+    private static void recordsStayApart() {
+        MailSync x = new MailSync();
+        x.add(0, 1, 1);
+        x.undo();
+        x.add(0, 2, 2);
+        x.add(0, 3, 3);
+        Check.same("undo", x.undo(), 1);
+        Check.same("the first one stands", x.message(0, 0, 1), 2);
+        Check.same("alone", x.box(0, 3), 1);
+        Check.same("undo", x.undo(), 0);
+        Check.same("nothing stands", x.box(0, 3), 0);
+    }
+
     private static void promise32() {
         MailSync x = new MailSync();
         Check.refuses("nothing to undo", x, STATE, () -> x.undo());
@@ -166,6 +184,7 @@ final class UndoTest {
         Check.refuses("makes no record", x, STATE, () -> x.undo());
         everyUndoable();
         recordsWithoutChange();
+        recordsStayApart();
     }
 
     private static long sum(long... values) {
