@@ -4,24 +4,6 @@ final class DeedTest {
     private static final Class<?> ARGUMENT = IllegalArgumentException.class;
     private static final Class<?> STATE = IllegalStateException.class;
 
-    private static void deedIs(String when, MailSync x, int machine, int k, int... due) {
-        for (int what = 0; what < due.length; what++) {
-            Check.same(when + ": deed(" + machine + ", " + k + ", " + what + ")", x.deed(machine, k, what), due[what]);
-        }
-    }
-
-    private static void copiedIs(String when, MailSync x, int machine, int k, int... due) {
-        for (int what = 0; what < due.length; what++) {
-            Check.same(when + ": copied(" + machine + ", 0, " + k + ", " + what + ")", x.copied(machine, 0, k, what), due[what]);
-        }
-    }
-
-    private static void messageIs(String when, MailSync x, int k, int... due) {
-        for (int what = 0; what < due.length; what++) {
-            Check.same(when + ": message(0, " + k + ", " + what + ")", x.message(0, k, what), due[what]);
-        }
-    }
-
     /** Machines 0 and 1 have copied some messages of box 0, with the contents 101, 102 and so on. */
     private static MailSync synced(int count) {
         MailSync x = new MailSync();
@@ -36,21 +18,21 @@ final class DeedTest {
     private static void promise21() {
         MailSync x = synced(3);
         Check.same("plan", x.plan(0, 0, 2, 0, 6), 1);
-        deedIs("how 0", x, 0, 0, 1, 0, 0, 2, 6, 57, -1);
+        Look.deed("how 0", x, 0, 0, 1, 0, 0, 2, 6, 57, -1);
         Check.same("plan", x.plan(0, 0, 1, 1, 9), 2);
-        deedIs("how 1", x, 0, 1, 2, 0, 0, 1, 9, 0, -1);
+        Look.deed("how 1", x, 0, 1, 2, 0, 0, 1, 9, 0, -1);
         Check.same("another machine goes on", x.plan(1, 0, 2, 2, 9), 3);
-        deedIs("how 2", x, 1, 0, 3, 0, 0, 2, 0, 9, -1);
+        Look.deed("how 2", x, 1, 0, 3, 0, 0, 2, 0, 9, -1);
         Check.same("again", x.plan(0, 0, 2, 2, 10), 1);
-        deedIs("taken off now", x, 0, 0, 1, 0, 0, 2, 4, 59, -1);
+        Look.deed("taken off now", x, 0, 0, 1, 0, 0, 2, 4, 59, -1);
         Check.same("again", x.plan(0, 0, 2, 1, 3), 1);
-        deedIs("added now", x, 0, 0, 1, 0, 0, 2, 7, 56, -1);
+        Look.deed("added now", x, 0, 0, 1, 0, 0, 2, 7, 56, -1);
         Check.same("again", x.plan(0, 0, 2, 0, 32), 1);
-        deedIs("all now", x, 0, 0, 1, 0, 0, 2, 32, 31, -1);
-        deedIs("the place is kept", x, 0, 1, 2, 0, 0, 1, 9, 0, -1);
-        deedIs("no more", x, 0, 2, -1, -1, -1, -1, -1, -1, -1);
+        Look.deed("all now", x, 0, 0, 1, 0, 0, 2, 32, 31, -1);
+        Look.deed("the place is kept", x, 0, 1, 2, 0, 0, 1, 9, 0, -1);
+        Look.deed("no more", x, 0, 2, -1, -1, -1, -1, -1, -1, -1);
         Check.same("nothing to change is a deed, too", x.plan(0, 0, 3, 1, 0), 4);
-        deedIs("no flags", x, 0, 2, 4, 0, 0, 3, 0, 0, -1);
+        Look.deed("no flags", x, 0, 2, 4, 0, 0, 3, 0, 0, -1);
         Check.same("the server stays", x.box(0, 2), 3);
         planRefusals(x);
         MailSync full = synced(9);
@@ -81,7 +63,7 @@ final class DeedTest {
     private static void promise22() {
         MailSync x = new MailSync();
         Check.same("planNew", x.planNew(2, 1, 999, 63), 1);
-        deedIs("new", x, 2, 0, 1, 1, 1, -1, 63, 0, 999);
+        Look.deed("new", x, 2, 0, 1, 1, 1, -1, 63, 0, 999);
         for (int k = 2; k <= 8; k++) {
             Check.same("planNew", x.planNew(2, 0, 0, 0), k);
         }
@@ -99,8 +81,8 @@ final class DeedTest {
         MailSync x = synced(9);
         Check.same("flags first", x.plan(0, 0, 1, 1, 1), 1);
         Check.same("planRemoval", x.planRemoval(0, 0, 1), 2);
-        deedIs("flags stay", x, 0, 0, 1, 0, 0, 1, 1, 0, -1);
-        deedIs("removal", x, 0, 1, 2, 2, 0, 1, 0, 0, -1);
+        Look.deed("flags stay", x, 0, 0, 1, 0, 0, 1, 1, 0, -1);
+        Look.deed("removal", x, 0, 1, 2, 2, 0, 1, 0, 0, -1);
         Check.refuses("twice", x, STATE, () -> x.planRemoval(0, 0, 1));
         Check.refuses("no such message", x, STATE, () -> x.planRemoval(0, 0, 10));
         Check.refuses("message -1", x, STATE, () -> x.planRemoval(0, 0, -1));
@@ -121,8 +103,8 @@ final class DeedTest {
         x.planNew(0, 0, 5, 6);
         x.plan(0, 0, 2, 1, 1);
         Check.same("takeBack", x.takeBack(0, 2), 2);
-        deedIs("the first", x, 0, 0, 1, 2, 0, 1, 0, 0, -1);
-        deedIs("the next", x, 0, 1, 3, 0, 0, 2, 1, 0, -1);
+        Look.deed("the first", x, 0, 0, 1, 2, 0, 1, 0, 0, -1);
+        Look.deed("the next", x, 0, 1, 3, 0, 0, 2, 1, 0, -1);
         Check.same("no outcome", x.outcome(2), -1);
         Check.same("nothing noted", x.noted(0), -1);
         Check.refuses("twice", x, STATE, () -> x.takeBack(0, 2));
@@ -133,7 +115,7 @@ final class DeedTest {
         Check.same("takeBack", x.takeBack(0, 1), 1);
         Check.same("it may be planned for again", x.plan(0, 0, 1, 1, 1), 4);
         for (int k : new int[] {-1, 2, 1 << 30, Integer.MIN_VALUE, Integer.MAX_VALUE}) {
-            deedIs("no such position", x, 0, k, -1, -1, -1, -1, -1, -1, -1);
+            Look.deed("no such position", x, 0, k, -1, -1, -1, -1, -1, -1, -1);
         }
         Check.refuses("deed: no machine", x, INDEX, () -> x.deed(4, 0, 7));
         Check.refuses("deed: what 7", x, ARGUMENT, () -> x.deed(0, 9, 7));
@@ -147,16 +129,16 @@ final class DeedTest {
         x.planNew(0, 0, 55, 5);
         x.plan(0, 0, 3, 1, 2);
         Check.same("playBack", x.playBack(0), 4);
-        messageIs("flags", x, 0, 1, 101, 12, 4);
-        messageIs("the same flags", x, 1, 3, 103, 2, 3);
-        messageIs("new", x, 2, 4, 55, 5, 6);
-        copiedIs("flags", x, 0, 0, 1, 101, 12, 4);
-        copiedIs("the same flags", x, 0, 1, 3, 103, 2, 3);
-        copiedIs("new", x, 0, 2, 4, 55, 5, 6);
+        Look.message("flags", x, 0, 0, 1, 101, 12, 4);
+        Look.message("the same flags", x, 0, 1, 3, 103, 2, 3);
+        Look.message("new", x, 0, 2, 4, 55, 5, 6);
+        Look.copied("flags", x, 0, 0, 0, 1, 101, 12, 4);
+        Look.copied("the same flags", x, 0, 0, 1, 3, 103, 2, 3);
+        Look.copied("new", x, 0, 0, 2, 4, 55, 5, 6);
         Check.same("removed without flag 0", x.vanished(0, 0, false), 2);
         Check.same("the copy keeps up", x.copyOf(0, 0, 1), 6);
         Check.same("nothing is due", x.syncCost(0, 0), 0);
-        deedIs("no deeds then", x, 0, 0, -1);
+        Look.deed("no deeds then", x, 0, 0, -1);
         for (int d = 1; d <= 4; d++) {
             Check.same("outcome " + d, x.outcome(d), 0);
             Check.same("noted " + d, x.noted(d - 1), d);
@@ -182,8 +164,8 @@ final class DeedTest {
     private static void playsTouched() {
         MailSync merge = touched(0);
         Check.same("merged", merge.playBack(0), 3);
-        messageIs("merged flags", merge, 0, 1, 101, 9, 7);
-        copiedIs("merged flags", merge, 0, 0, 1, 101, 9, 7);
+        Look.message("merged flags", merge, 0, 0, 1, 101, 9, 7);
+        Look.copied("merged flags", merge, 0, 0, 0, 1, 101, 9, 7);
         Check.same("outcome merged", merge.outcome(1), 1);
         Check.same("outcome removed", merge.outcome(2), 1);
         Check.same("outcome untouched", merge.outcome(3), 0);
@@ -195,12 +177,12 @@ final class DeedTest {
 
         MailSync yield = touched(1);
         Check.same("yields", yield.playBack(0), 1);
-        messageIs("the server's flags", yield, 0, 1, 101, 5, 5);
-        copiedIs("the copy stays", yield, 0, 0, 1, 101, 2, 1);
+        Look.message("the server's flags", yield, 0, 0, 1, 101, 5, 5);
+        Look.copied("the copy stays", yield, 0, 0, 0, 1, 101, 2, 1);
         Check.same("refused", yield.outcome(1), 4);
         Check.same("refused", yield.outcome(2), 4);
         Check.same("untouched", yield.outcome(3), 0);
-        messageIs("untouched", yield, 2, 3, 103, 18, 7);
+        Look.message("untouched", yield, 0, 2, 3, 103, 18, 7);
         Check.same("told 6", yield.told(6), 2);
         Check.same("told 5", yield.told(5), 0);
     }
@@ -225,7 +207,7 @@ final class DeedTest {
         Check.same("flags", x.outcome(1), 2);
         Check.same("removal", x.outcome(2), 2);
         Check.same("the copy has none either", x.copyOf(0, 0, 2), 1);
-        copiedIs("the other one stays", x, 0, 0, 2, 102, 2, 2);
+        Look.copied("the other one stays", x, 0, 0, 0, 2, 102, 2, 2);
         Check.same("the mark of the copy", x.copyOf(0, 0, 1), 2);
         Check.same("told 6", x.told(6), 2);
     }
@@ -241,7 +223,7 @@ final class DeedTest {
         Check.same("removal", x.outcome(2), 3);
         Check.same("new", x.outcome(3), 0);
         Check.same("its name", x.nameOf(3), 3);
-        messageIs("new", x, 2, 3, 9, 9, 4);
+        Look.message("new", x, 0, 2, 3, 9, 9, 4);
         Check.same("not in the copy", x.copyOf(0, 0, 2), 2);
         Check.same("the era of the copy", x.copyOf(0, 0, 0), 1);
         Check.same("the mark of the copy", x.copyOf(0, 0, 1), 2);
@@ -277,11 +259,11 @@ final class DeedTest {
         x.add(0, 7, 7);
         x.planNew(0, 0, 8, 8);
         x.playBack(0);
-        copiedIs("what it added", x, 0, 1, 3, 8, 8, 3);
+        Look.copied("what it added", x, 0, 0, 1, 3, 8, 8, 3);
         Check.same("the mark stays", x.copyOf(0, 0, 1), 1);
         Check.same("both are sent", x.sync(0, 0), 2);
-        copiedIs("in the middle", x, 0, 1, 2, 7, 7, 2);
-        copiedIs("behind it", x, 0, 2, 3, 8, 8, 3);
+        Look.copied("in the middle", x, 0, 0, 1, 2, 7, 7, 2);
+        Look.copied("behind it", x, 0, 0, 2, 3, 8, 8, 3);
     }
 
     private static void promise26() {

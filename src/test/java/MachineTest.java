@@ -3,30 +3,6 @@ final class MachineTest {
     private static final Class<?> INDEX = IndexOutOfBoundsException.class;
     private static final Class<?> ARGUMENT = IllegalArgumentException.class;
 
-    private static void copyIs(String when, MailSync x, int machine, int box, int... due) {
-        for (int what = 0; what < due.length; what++) {
-            Check.same(when + ": copyOf(" + machine + ", " + box + ", " + what + ")", x.copyOf(machine, box, what), due[what]);
-        }
-    }
-
-    private static void copiedIs(String when, MailSync x, int machine, int k, int... due) {
-        for (int what = 0; what < due.length; what++) {
-            Check.same(when + ": copied(" + machine + ", 0, " + k + ", " + what + ")", x.copied(machine, 0, k, what), due[what]);
-        }
-    }
-
-    private static void viewIs(String when, MailSync x, int machine, int k, int... due) {
-        for (int what = 0; what < due.length; what++) {
-            Check.same(when + ": view(" + machine + ", 0, " + k + ", " + what + ")", x.view(machine, 0, k, what), due[what]);
-        }
-    }
-
-    private static void toldIs(String when, MailSync x, int... due) {
-        for (int what = 0; what < due.length; what++) {
-            Check.same(when + ": told(" + what + ")", x.told(what), due[what]);
-        }
-    }
-
     private static void syncs(String when, MailSync x, int machine, int box, int due) {
         long before = x.checksum();
         Check.same(when + ": syncCost", x.syncCost(machine, box), due);
@@ -58,13 +34,13 @@ final class MachineTest {
     private static void syncAllAtFirst() {
         MailSync x = withMessages(3);
         syncs("first sync", x, 1, 0, 3);
-        copyIs("first sync", x, 1, 0, 1, 3, 3, 3);
-        copiedIs("first sync", x, 1, 2, 3, 103, 1, 3);
-        toldIs("first sync", x, 3, 0, 1, 0, 0, 0, 0);
+        Look.copyOf("first sync", x, 1, 0, 1, 3, 3, 3);
+        Look.copied("first sync", x, 1, 0, 2, 3, 103, 1, 3);
+        Look.told("first sync", x, 3, 0, 1, 0, 0, 0, 0);
         syncs("an empty box", x, 1, 1, 0);
-        copyIs("an empty box", x, 1, 1, 1, 0, 0, 0);
-        toldIs("an empty box", x, 3, 0, 2, 0, 0, 0, 0);
-        copyIs("another machine", x, 0, 0, 0, 0, 0, 0);
+        Look.copyOf("an empty box", x, 1, 1, 1, 0, 0, 0);
+        Look.told("an empty box", x, 3, 0, 2, 0, 0, 0, 0);
+        Look.copyOf("another machine", x, 0, 0, 0, 0, 0, 0);
     }
 
     private static void syncByMarks() {
@@ -77,17 +53,17 @@ final class MachineTest {
         }
         Check.same("the horizon is still 0", x.box(0, 4), 0);
         syncs("by marks", x, 1, 0, 8);
-        toldIs("by marks", x, 10, 6, 1, 1, 0, 0, 0);
-        copyIs("by marks", x, 1, 0, 1, 16, 3, 3);
-        copiedIs("by marks", x, 1, 0, 1, 101, 1, 1);
-        copiedIs("by marks", x, 1, 1, 2, 102, 33, 9);
-        copiedIs("by marks", x, 1, 2, 9, 7, 7, 10);
+        Look.told("by marks", x, 10, 6, 1, 1, 0, 0, 0);
+        Look.copyOf("by marks", x, 1, 0, 1, 16, 3, 3);
+        Look.copied("by marks", x, 1, 0, 0, 1, 101, 1, 1);
+        Look.copied("by marks", x, 1, 0, 1, 2, 102, 33, 9);
+        Look.copied("by marks", x, 1, 0, 2, 9, 7, 7, 10);
         x.add(0, 5, 1);
         x.remove(0, 10);
         syncs("what came and went since", x, 1, 0, 1);
-        toldIs("what came and went since", x, 10, 7, 1, 2, 0, 0, 0);
+        Look.told("what came and went since", x, 10, 7, 1, 2, 0, 0, 0);
         syncs("nothing new", x, 1, 0, 0);
-        toldIs("nothing new", x, 10, 7, 1, 3, 0, 0, 0);
+        Look.told("nothing new", x, 10, 7, 1, 3, 0, 0, 0);
     }
 
     private static void syncAtTheHorizon() {
@@ -99,8 +75,8 @@ final class MachineTest {
         }
         Check.same("the horizon is the mark of the copy", x.box(0, 4), 9);
         syncs("at the horizon", x, 2, 0, 6);
-        toldIs("at the horizon", x, 7, 6, 1, 1, 0, 0, 0);
-        copyIs("at the horizon", x, 2, 0, 1, 15, 1, 1);
+        Look.told("at the horizon", x, 7, 6, 1, 1, 0, 0, 0);
+        Look.copyOf("at the horizon", x, 2, 0, 1, 15, 1, 1);
     }
 
     private static void syncByComparing() {
@@ -112,10 +88,10 @@ final class MachineTest {
         x.add(0, 3, 0);
         Check.same("the horizon", x.box(0, 4), 11);
         syncs("by comparing", x, 2, 0, 5);
-        toldIs("by comparing", x, 11, 4, 1, 0, 1, 0, 0);
-        copyIs("by comparing", x, 2, 0, 1, 18, 4, 4);
-        copiedIs("by comparing", x, 2, 0, 8, 108, 1, 8);
-        copiedIs("by comparing", x, 2, 3, 11, 3, 0, 18);
+        Look.told("by comparing", x, 11, 4, 1, 0, 1, 0, 0);
+        Look.copyOf("by comparing", x, 2, 0, 1, 18, 4, 4);
+        Look.copied("by comparing", x, 2, 0, 0, 8, 108, 1, 8);
+        Look.copied("by comparing", x, 2, 0, 3, 11, 3, 0, 18);
     }
 
     private static void syncToAnotherEra() {
@@ -128,9 +104,9 @@ final class MachineTest {
         x.remove(0, 1);
         x.renew(0);
         syncs("another era", x, 0, 0, 2);
-        copyIs("another era", x, 0, 0, 2, 5, 2, 3);
-        copiedIs("another era", x, 0, 0, 1, 102, 1, 5);
-        toldIs("another era", x, 5, 0, 3, 0, 0, 0, 2);
+        Look.copyOf("another era", x, 0, 0, 2, 5, 2, 3);
+        Look.copied("another era", x, 0, 0, 0, 1, 102, 1, 5);
+        Look.told("another era", x, 5, 0, 3, 0, 0, 0, 2);
         Check.same("dropped first", x.noted(0), 1);
         Check.same("dropped then", x.noted(1), 3);
         Check.same("outcome of the flags", x.outcome(1), 3);
@@ -160,7 +136,7 @@ final class MachineTest {
         Check.same("outcome", x.outcome(5), 2);
         Check.same("the first that stays", x.deed(0, 0, 0), 2);
         Check.same("that of the other box stays", x.deed(0, 1, 0), 3);
-        toldIs("messages are gone", x, 5, 2, 2, 1, 0, 0, 3);
+        Look.told("messages are gone", x, 5, 2, 2, 1, 0, 0, 3);
     }
 
     // A copy that lags keeps what it had, so that what it plays back can bring it far above 20.
@@ -175,16 +151,16 @@ final class MachineTest {
             Check.same("all are added", x.playBack(0), 8);
             Check.same("and removed", x.clean(0), 8);
         }
-        copyIs("grown", x, 0, 0, 1, 0, 320, 320);
-        copiedIs("grown", x, 0, 319, 321, 39, 1, 633);
-        viewIs("grown", x, 0, 0, 2, 0, 1);
+        Look.copyOf("grown", x, 0, 0, 1, 0, 320, 320);
+        Look.copied("grown", x, 0, 0, 319, 321, 39, 1, 633);
+        Look.view("grown", x, 0, 0, 0, 2, 0, 1);
         Check.same("different", x.different(0, 0), 321);
         long before = x.checksum();
         syncs("grown", x, 0, 0, 2);
-        copyIs("synced", x, 0, 0, 1, 641, 1, 1);
+        Look.copyOf("synced", x, 0, 0, 1, 641, 1, 1);
         x.undo();
         Check.same("undone, with 3 records for 4", x.checksum(), before - 1);
-        copyIs("undone", x, 0, 0, 1, 0, 320, 320);
+        Look.copyOf("undone", x, 0, 0, 1, 0, 320, 320);
     }
 
     private static void promises14and15() {
@@ -208,9 +184,9 @@ final class MachineTest {
         x.planNew(3, 0, 1, 1);
         x.planNew(3, 0, 2, 1);
         x.planRemoval(3, 0, 1);
-        copyIs("with deeds", x, 3, 0, 1, 2, 2, 3);
+        Look.copyOf("with deeds", x, 3, 0, 1, 2, 2, 3);
         for (int k : new int[] {-1, 2, 1 << 30, Integer.MIN_VALUE, Integer.MAX_VALUE}) {
-            copiedIs("no such position", x, 3, k, -1, -1, -1, -1);
+            Look.copied("no such position", x, 3, 0, k, -1, -1, -1, -1);
         }
         Check.refuses("copyOf: no machine", x, INDEX, () -> x.copyOf(4, 0, 4));
         Check.refuses("copyOf: no box", x, INDEX, () -> x.copyOf(0, 3, 4));
@@ -230,17 +206,17 @@ final class MachineTest {
         x.plan(0, 0, 3, 0, 6);
         x.planRemoval(0, 0, 2);
         x.planNew(0, 0, 70, 14);
-        viewIs("as it was", x, 0, 0, 1, 101, 1);
-        viewIs("with other flags", x, 0, 1, 3, 103, 6);
-        viewIs("new", x, 0, 2, -1, 50, 12);
-        viewIs("new", x, 0, 3, -5, 70, 14);
-        viewIs("no more", x, 0, 4, -1, -1, -1);
-        viewIs("before the first", x, 0, -1, -1, -1, -1);
+        Look.view("as it was", x, 0, 0, 0, 1, 101, 1);
+        Look.view("with other flags", x, 0, 0, 1, 3, 103, 6);
+        Look.view("new", x, 0, 0, 2, -1, 50, 12);
+        Look.view("new", x, 0, 0, 3, -5, 70, 14);
+        Look.view("no more", x, 0, 0, 4, -1, -1, -1);
+        Look.view("before the first", x, 0, 0, -1, -1, -1, -1);
         Check.same("the other box", x.view(0, 1, 0, 0), -2);
-        copiedIs("the copy stays", x, 0, 1, 2, 102, 1, 2);
+        Look.copied("the copy stays", x, 0, 0, 1, 2, 102, 1, 2);
         x.plan(0, 0, 1, 2, 1);
         x.plan(0, 0, 1, 1, 16);
-        viewIs("added and taken off", x, 0, 0, 1, 101, 16);
+        Look.view("added and taken off", x, 0, 0, 0, 1, 101, 16);
         Check.refuses("no machine", x, INDEX, () -> x.view(4, 0, 0, 3));
         Check.refuses("no box", x, INDEX, () -> x.view(0, 3, 0, 3));
         Check.refuses("what 3", x, ARGUMENT, () -> x.view(0, 0, 9, 3));

@@ -4,18 +4,6 @@ final class ServerTest {
     private static final Class<?> ARGUMENT = IllegalArgumentException.class;
     private static final Class<?> STATE = IllegalStateException.class;
 
-    private static void boxIs(String when, MailSync x, int box, int... due) {
-        for (int what = 0; what < due.length; what++) {
-            Check.same(when + ": box(" + box + ", " + what + ")", x.box(box, what), due[what]);
-        }
-    }
-
-    private static void messageIs(String when, MailSync x, int box, int k, int... due) {
-        for (int what = 0; what < due.length; what++) {
-            Check.same(when + ": message(" + box + ", " + k + ", " + what + ")", x.message(box, k, what), due[what]);
-        }
-    }
-
     private static MailSync withFull(int box) {
         MailSync x = new MailSync();
         for (int k = 0; k < 20; k++) {
@@ -27,8 +15,8 @@ final class ServerTest {
     private static void promise1() {
         MailSync x = new MailSync();
         for (int b = 0; b < 3; b++) {
-            boxIs("new", x, b, 1, 1, 0, 0, 0, 0);
-            messageIs("new", x, b, 0, -1, -1, -1, -1);
+            Look.box("new", x, b, 1, 1, 0, 0, 0, 0);
+            Look.message("new", x, b, 0, -1, -1, -1, -1);
             for (int m = 0; m < 4; m++) {
                 for (int what = 0; what < 4; what++) {
                     Check.same("new: copyOf", x.copyOf(m, b, what), 0);
@@ -53,10 +41,10 @@ final class ServerTest {
         Check.same("add", x.add(1, 999, 63), 1);
         Check.same("add", x.add(1, 0, 0), 2);
         Check.same("add", x.add(2, 5, 6), 1);
-        boxIs("added", x, 1, 1, 3, 2, 2, 0, 0);
-        messageIs("added", x, 1, 0, 1, 999, 63, 1);
-        messageIs("added", x, 1, 1, 2, 0, 0, 2);
-        boxIs("added", x, 0, 1, 1, 0, 0, 0, 0);
+        Look.box("added", x, 1, 1, 3, 2, 2, 0, 0);
+        Look.message("added", x, 1, 0, 1, 999, 63, 1);
+        Look.message("added", x, 1, 1, 2, 0, 0, 2);
+        Look.box("added", x, 0, 1, 1, 0, 0, 0, 0);
         Check.refuses("add to box 3", x, INDEX, () -> x.add(3, 1000, 64));
         Check.refuses("add to box -1", x, INDEX, () -> x.add(-1, 0, 0));
         Check.refuses("content 1000", x, ARGUMENT, () -> x.add(0, 1000, 0));
@@ -64,7 +52,7 @@ final class ServerTest {
         Check.refuses("flags 64", x, ARGUMENT, () -> x.add(0, 0, 64));
         Check.refuses("flags -1", x, ARGUMENT, () -> x.add(0, 0, -1));
         MailSync full = withFull(0);
-        boxIs("full", full, 0, 1, 21, 20, 20, 0, 0);
+        Look.box("full", full, 0, 1, 21, 20, 20, 0, 0);
         Check.refuses("add to a full box", full, STATE, () -> full.add(0, 0, 0));
         Check.refuses("wrong content for a full box", full, ARGUMENT, () -> full.add(0, 1000, 0));
         Check.same("another box has room", full.add(1, 0, 0), 1);
@@ -75,13 +63,13 @@ final class ServerTest {
         x.add(0, 7, 12);
         x.add(0, 8, 0);
         Check.same("set", x.change(0, 1, 0, 3, -1), 3);
-        messageIs("set", x, 0, 0, 1, 7, 3, 3);
+        Look.message("set", x, 0, 0, 1, 7, 3, 3);
         Check.same("add flags", x.change(0, 1, 1, 6, -1), 7);
         Check.same("take flags off", x.change(0, 1, 2, 34, 4), 5);
-        messageIs("taken off", x, 0, 0, 1, 7, 5, 5);
+        Look.message("taken off", x, 0, 0, 1, 7, 5, 5);
         Check.same("same flags", x.change(0, 1, 0, 5, -1), 5);
-        messageIs("same flags", x, 0, 0, 1, 7, 5, 5);
-        boxIs("same flags", x, 0, 1, 3, 5, 2, 0, 0);
+        Look.message("same flags", x, 0, 0, 1, 7, 5, 5);
+        Look.box("same flags", x, 0, 1, 3, 5, 2, 0, 0);
         Check.refuses("since too old", x, STATE, () -> x.change(0, 1, 0, 9, 4));
         Check.refuses("since 0", x, STATE, () -> x.change(0, 2, 0, 9, 0));
         Check.refuses("since for the same flags", x, STATE, () -> x.change(0, 1, 0, 5, 4));
@@ -104,10 +92,10 @@ final class ServerTest {
         x.add(2, 2, 62);
         x.add(2, 3, 63);
         Check.same("remove", x.remove(2, 1), 2);
-        boxIs("removed", x, 2, 1, 4, 4, 2, 0, 1);
+        Look.box("removed", x, 2, 1, 4, 4, 2, 0, 1);
         Check.same("its name vanished", x.vanished(2, 0, false), 1);
         Check.same("its mark", x.vanished(2, 0, true), 4);
-        messageIs("removed", x, 2, 0, 2, 2, 62, 2);
+        Look.message("removed", x, 2, 0, 2, 2, 62, 2);
         Check.refuses("without flag 0", x, STATE, () -> x.remove(2, 2));
         Check.refuses("gone", x, INDEX, () -> x.remove(2, 1));
         Check.refuses("no box", x, INDEX, () -> x.remove(-1, 1));
@@ -118,15 +106,15 @@ final class ServerTest {
     private static void promise5() {
         MailSync x = withFull(0);
         Check.same("clean", x.clean(0), 10);
-        boxIs("cleaned", x, 0, 1, 21, 30, 10, 24, 6);
+        Look.box("cleaned", x, 0, 1, 21, 30, 10, 24, 6);
         Check.same("the oldest entry", x.vanished(0, 0, false), 10);
         Check.same("its mark", x.vanished(0, 0, true), 25);
         Check.same("the latest entry", x.vanished(0, 5, false), 20);
         Check.same("its mark", x.vanished(0, 5, true), 30);
-        messageIs("cleaned", x, 0, 0, 1, 0, 0, 1);
-        messageIs("cleaned", x, 0, 9, 19, 18, 0, 19);
+        Look.message("cleaned", x, 0, 0, 1, 0, 0, 1);
+        Look.message("cleaned", x, 0, 9, 19, 18, 0, 19);
         Check.same("clean again", x.clean(0), 0);
-        boxIs("cleaned again", x, 0, 1, 21, 30, 10, 24, 6);
+        Look.box("cleaned again", x, 0, 1, 21, 30, 10, 24, 6);
         Check.refuses("no box", x, INDEX, () -> x.clean(3));
     }
 
@@ -136,10 +124,10 @@ final class ServerTest {
         x.add(0, 78, 6);
         x.add(1, 1, 1);
         Check.same("copy to another", x.copy(0, 2, 1), 2);
-        messageIs("copied", x, 1, 1, 2, 78, 6, 2);
+        Look.message("copied", x, 1, 1, 2, 78, 6, 2);
         Check.same("copy to the same", x.copy(0, 1, 0), 3);
-        messageIs("copied", x, 0, 2, 3, 77, 5, 3);
-        messageIs("the first one stays", x, 0, 0, 1, 77, 5, 1);
+        Look.message("copied", x, 0, 2, 3, 77, 5, 3);
+        Look.message("the first one stays", x, 0, 0, 1, 77, 5, 1);
         Check.refuses("no box", x, INDEX, () -> x.copy(3, 1, 0));
         Check.refuses("no box to add to", x, INDEX, () -> x.copy(0, 1, 3));
         Check.refuses("no box to add to", x, INDEX, () -> x.copy(0, 1, -1));
@@ -160,14 +148,14 @@ final class ServerTest {
         x.remove(1, 2);
         x.remove(1, 4);
         Check.same("renew", x.renew(1), 2);
-        boxIs("renewed", x, 1, 2, 4, 8, 3, 8, 0);
-        messageIs("renewed", x, 1, 0, 1, 10, 1, 8);
-        messageIs("renewed", x, 1, 1, 2, 30, 1, 8);
-        messageIs("renewed", x, 1, 2, 3, 50, 1, 8);
+        Look.box("renewed", x, 1, 2, 4, 8, 3, 8, 0);
+        Look.message("renewed", x, 1, 0, 1, 10, 1, 8);
+        Look.message("renewed", x, 1, 1, 2, 30, 1, 8);
+        Look.message("renewed", x, 1, 2, 3, 50, 1, 8);
         Check.same("nothing vanished", x.vanished(1, 0, false), -1);
         Check.same("the next name", x.add(1, 0, 0), 4);
         Check.same("renew an empty box", x.renew(0), 2);
-        boxIs("renewed", x, 0, 2, 1, 1, 0, 1, 0);
+        Look.box("renewed", x, 0, 2, 1, 1, 0, 1, 0);
         Check.refuses("no box", x, INDEX, () -> x.renew(3));
     }
 
@@ -186,10 +174,10 @@ final class ServerTest {
         for (int k = 9; k >= 4; k--) {
             x.remove(0, k);
         }
-        boxIs("6 vanished", x, 0, 1, 10, 15, 3, 0, 6);
+        Look.box("6 vanished", x, 0, 1, 10, 15, 3, 0, 6);
         Check.same("the oldest entry", x.vanished(0, 0, false), 9);
         x.remove(0, 1);
-        boxIs("7 vanished", x, 0, 1, 10, 16, 2, 10, 6);
+        Look.box("7 vanished", x, 0, 1, 10, 16, 2, 10, 6);
         Check.same("the oldest entry", x.vanished(0, 0, false), 8);
         Check.same("its mark", x.vanished(0, 0, true), 11);
         Check.same("the latest entry", x.vanished(0, 5, false), 1);
@@ -199,7 +187,7 @@ final class ServerTest {
             Check.same("vanished at " + k, x.vanished(0, k, false), -1);
         }
         for (int k : new int[] {-1, 2, 1 << 30, Integer.MIN_VALUE, Integer.MAX_VALUE}) {
-            messageIs("no such position", x, 0, k, -1, -1, -1, -1);
+            Look.message("no such position", x, 0, k, -1, -1, -1, -1);
         }
     }
 

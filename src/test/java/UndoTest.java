@@ -1,6 +1,3 @@
-import java.util.ArrayList;
-import java.util.List;
-
 /** Promises 31 to 33: counts, undo, the checksum. */
 final class UndoTest {
     private static final Class<?> ARGUMENT = IllegalArgumentException.class;
@@ -25,49 +22,6 @@ final class UndoTest {
         Check.same("counts are undone", x.told(5), 0);
     }
 
-    /** Everything that can be asked, in one text, without the number of records. */
-    private static String all(MailSync x) {
-        List<Integer> seen = new ArrayList<>();
-        for (int b = 0; b < 3; b++) {
-            for (int what = 0; what < 6; what++) {
-                seen.add(x.box(b, what));
-            }
-            for (int k = 0; k < 21; k++) {
-                for (int what = 0; what < 4; what++) {
-                    seen.add(x.message(b, k, what));
-                }
-                seen.add(x.vanished(b, k, true));
-                seen.add(x.vanished(b, k, false));
-            }
-        }
-        for (int m = 0; m < 4; m++) {
-            for (int b = 0; b < 3; b++) {
-                for (int what = 0; what < 4; what++) {
-                    seen.add(x.copyOf(m, b, what));
-                }
-                for (int k = 0; k < 30; k++) {
-                    for (int what = 0; what < 4; what++) {
-                        seen.add(x.copied(m, b, k, what));
-                    }
-                }
-            }
-            for (int k = 0; k < 8; k++) {
-                for (int what = 0; what < 7; what++) {
-                    seen.add(x.deed(m, k, what));
-                }
-            }
-        }
-        for (int k = 0; k < 10; k++) {
-            seen.add(x.noted(k));
-            seen.add(x.outcome(x.noted(k)));
-            seen.add(x.nameOf(x.noted(k)));
-        }
-        for (int what = 0; what < 7; what++) {
-            seen.add(x.told(what));
-        }
-        return seen.toString();
-    }
-
     // Nothing that a record holds is as in a new object, so that what is left out of it shows.
     private static MailSync prepared() {
         MailSync x = new MailSync();
@@ -86,11 +40,11 @@ final class UndoTest {
     }
 
     private static void undoes(String what, Check.Call call, MailSync x) {
-        String before = all(x);
+        String before = Look.all(x);
         long sum = x.checksum();
         call.answer();
         Check.same(what + ": undo", x.undo(), 3);
-        Check.told(what + " is undone: all that can be asked", all(x), before);
+        Check.told(what + " is undone: all that can be asked", Look.all(x), before);
         // The four records of before are three now, as the call dropped the oldest.
         Check.holds(what + ": one record fewer", x.checksum() == sum - 1);
     }
